@@ -36,12 +36,10 @@ public final class HeavyGifts {
     private int imageTexts = 0;
     private int imageGifts = 0;
 
-    private final byte[] tape = new byte[MAX_TAPE];
-    private int tapeLength = 0;
-    private final Reader reader = new Reader(tape, spare);
+    private final Tape tape = new Tape();
     private int faultPlace = NONE;
 
-    private final Week weekSearch = new Week(spare);
+    private final Week weekSearch = new Week();
     private final int[] keptOrder = new int[MAX_PEOPLE];
     private int keptOrderLength = 0;
     /* Has by far the most rows: made only where it is asked for. */
@@ -53,37 +51,29 @@ public final class HeavyGifts {
     }
 
     public int feed(int a, int b, int c, int d, int e) {
-        if (tapeLength > MAX_TAPE - FEED_BYTES) {
+        if (!tape.hasRoomFor(FEED_BYTES)) {
             return NONE;
         }
-        putBytes(a);
-        putBytes(b);
-        putBytes(c);
-        putBytes(d);
-        putBytes(e);
-        return tapeLength;
-    }
-
-    private void putBytes(int number) {
-        for (int shift = 24; shift >= 0 && tapeLength < MAX_TAPE; shift -= 8) {
-            tape[tapeLength] = (byte) (number >>> shift);
-            tapeLength++;
-        }
+        tape.putBytes(a);
+        tape.putBytes(b);
+        tape.putBytes(c);
+        tape.putBytes(d);
+        tape.putBytes(e);
+        return tape.length();
     }
 
     public int town(int n) throws IllegalArgumentException {
-        if (n < 0 || n > tapeLength) {
+        if (n < 0 || n > tape.length()) {
             throw new IllegalArgumentException();
         }
-        tapeLength = 0;
-        int fault = reader.readTown(n);
+        int fault = tape.readTown(n);
         if (fault != 0) {
-            faultPlace = reader.place();
+            faultPlace = tape.place();
             refusedTexts++;
             return fault;
         }
         faultPlace = NONE;
-        town.copyFrom(spare);
+        town.copyFrom(tape.town);
         book.clear();
         keptOrderLength = 0;
         imageKept = false;
@@ -102,7 +92,7 @@ public final class HeavyGifts {
             case 3: return town.within;
             case 4: return town.day;
             case 5: return book.length();
-            case 6: return tapeLength;
+            case 6: return tape.length();
             case 7: return refusedTexts;
             case 8: return refusedGifts;
             default: throw new NoSuchElementException();
@@ -208,8 +198,7 @@ public final class HeavyGifts {
 
     public int week(int what) throws NoSuchElementException {
         requireWhat(what, 2);
-        spare.copyFrom(town);
-        boolean all = weekSearch.tryAll();
+        boolean all = weekSearch.tryAll(town);
         keptOrderLength = all ? weekSearch.length() : 0;
         for (int i = 0; i < keptOrderLength; i++) {
             keptOrder[i] = weekSearch.personAt(i);
@@ -234,11 +223,10 @@ public final class HeavyGifts {
     public int get(int person, int thing) throws NoSuchElementException {
         requirePerson(person);
         requireThing(thing);
-        spare.copyFrom(town);
         if (getting == null) {
-            getting = new Getting(spare);
+            getting = new Getting();
         }
-        return getting.fewestGifts(person, thing);
+        return getting.fewestGifts(town, person, thing);
     }
 
     public int cut(int person, int what) throws NoSuchElementException {
@@ -752,10 +740,10 @@ public final class HeavyGifts {
             int nearest = NONE;
             int set = 0;
             for (int k = 0; k < MAX_SETS; k++) {
-                int heaviest = weightOf(set) + sand[person];
-                int lightest = Math.max(1, weightOf(set));
-                if (heaviest >= 1) {
-                    int off = Math.max(0, Math.max(lightest - owed[person], owed[person] - heaviest));
+                int bare = weightOf(set);
+                int withSand = bare + sand[person];
+                if (withSand > 0) {
+                    int off = Math.max(0, Math.max(bare - owed[person], owed[person] - withSand));
                     nearest = nearest == NONE ? off : Math.min(nearest, off);
                 }
                 set = stepUp(has[person], set);
@@ -835,8 +823,8 @@ public final class HeavyGifts {
         }
     }
 
-    /** Reads a text as a town, token by token, up to its end or to the first fault. */
-    private static final class Reader {
+    /** The bytes that were fed; reads them as a town, token by token, up to the end or to the first fault. */
+    private static final class Tape {
         private static final int END = 0;
         private static final int WORD = 1;
         private static final int NUMBER = 2;
@@ -844,8 +832,9 @@ public final class HeavyGifts {
         private static final int STRANGE = 4;
         private static final int MAX_DIGITS = 4;
 
-        private final byte[] text;
-        private final Town town;
+        final Town town = new Town();
+        private final byte[] text = new byte[MAX_TAPE];
+        private int fed = 0;
         private int length = 0;
         private boolean lawTold = false;
         private boolean withinTold = false;
@@ -858,14 +847,25 @@ public final class HeavyGifts {
         private int value = 0;
         private int taken = 0;
 
-        Reader(byte[] text, Town town) {
-            this.text = text;
-            this.town = town;
+        int length() {
+            return fed;
         }
 
-        /* The fault, or 0: its town is whole then. */
+        boolean hasRoomFor(int bytes) {
+            return fed + bytes <= MAX_TAPE;
+        }
+
+        void putBytes(int number) {
+            for (int shift = 24; shift >= 0 && fed < MAX_TAPE; shift -= 8) {
+                text[fed] = (byte) (number >>> shift);
+                fed++;
+            }
+        }
+
+        /* The fault, or 0: its town is whole then. The tape is empty behind it. */
         int readTown(int textLength) {
-            length = Math.min(textLength, text.length);
+            length = Math.min(textLength, fed);
+            fed = 0;
             town.clear();
             lawTold = false;
             withinTold = false;
@@ -1143,18 +1143,14 @@ public final class HeavyGifts {
     private static final class Week {
         private static final int MAX_TRIES = 20000;
 
-        private final Town town;
+        private final Town town = new Town();
         private final int[] row = new int[MAX_PEOPLE];
         private int owing = 0;
         private int tries = 0;
         private int most = 0;
 
-        Week(Town town) {
-            this.town = town;
-        }
-
-        /* Its town is used up by it. */
-        boolean tryAll() {
+        boolean tryAll(Town start) {
+            town.copyFrom(start);
             owing = 0;
             tries = 0;
             most = 0;
@@ -1238,16 +1234,12 @@ public final class HeavyGifts {
         /* The number of a state and 1, at the place that its sum tells or behind it; 0: empty. */
         private final short[] slots = new short[SLOTS];
         private final long[] packed = new long[MAX_PEOPLE];
-        private final Town town;
+        private final Town town = new Town();
         private int found = 0;
         private boolean spent = false;
 
-        Getting(Town town) {
-            this.town = town;
-        }
-
-        /* Its town is used up by it. */
-        int fewestGifts(int seeker, int thing) {
+        int fewestGifts(Town start, int seeker, int thing) {
+            town.copyFrom(start);
             Arrays.fill(slots, (short) 0);
             found = 0;
             spent = false;
