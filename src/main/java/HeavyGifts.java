@@ -199,9 +199,8 @@ public final class HeavyGifts {
     public int week(int what) throws NoSuchElementException {
         requireWhat(what, 2);
         boolean all = weekSearch.tryAll(town);
-        keptOrderLength = all ? weekSearch.length() : 0;
-        for (int i = 0; i < keptOrderLength; i++) {
-            keptOrder[i] = weekSearch.personAt(i);
+        if (all) {
+            keepOrder();
         }
         if (weekSearch.isSpent()) {
             return SPENT;
@@ -210,6 +209,14 @@ public final class HeavyGifts {
             case 0: return all ? 1 : 0;
             case 1: return weekSearch.most();
             default: return weekSearch.tries();
+        }
+    }
+
+    /* Only an order that was found comes in place of the kept one: a week without any leaves that as it is. */
+    private void keepOrder() {
+        keptOrderLength = Math.min(weekSearch.length(), MAX_PEOPLE);
+        for (int i = 0; i < keptOrderLength; i++) {
+            keptOrder[i] = weekSearch.personAt(i);
         }
     }
 

@@ -5,12 +5,15 @@ import java.util.List;
 public final class AgreementTest {
     private static long seed = 20261117;
     private static int spentGets = 0;
+    private static List<Integer> keptOrder = List.of();
+    private static int keptOrders = 0;
 
     public static void main(String[] args) {
         for (int i = 0; i < 700 && Check.wrongOnes() < 20; i++) {
             oneTown(i);
         }
         Check.same("some gets are spent", 1, () -> spentGets > 0 ? 1 : 0);
+        Check.same("some orders outlast a week without one", 1, () -> keptOrders > 0 ? 1 : 0);
         Check.end();
     }
 
@@ -22,6 +25,7 @@ public final class AgreementTest {
     private static void oneTown(int number) {
         PlainTown t = madeTown(number);
         HeavyGifts x = Check.town(told(t));
+        keptOrder = List.of();
         List<PlainTown> before = new ArrayList<>();
         List<PlainTown.Gift> gifts = new ArrayList<>();
         for (int step = 0; step < 5; step++) {
@@ -148,10 +152,12 @@ public final class AgreementTest {
         Check.same(name + " week 0", spent ? -2 : order == null ? 0 : 1, () -> x.week(0));
         Check.same(name + " week 1", spent ? -2 : t.most, () -> x.week(1));
         Check.same(name + " week 2", spent ? -2 : t.tries, () -> x.week(2));
-        int length = order == null ? 0 : order.size();
+        keptOrders += order == null && !keptOrder.isEmpty() ? 1 : 0;
+        keptOrder = order == null ? keptOrder : order;
+        int length = keptOrder.size();
         for (int i = 0; i < length; i++) {
             int at = i;
-            Check.same(name + " order " + i, order.get(i), () -> x.order(at));
+            Check.same(name + " order " + i, keptOrder.get(i), () -> x.order(at));
         }
         Check.noSuch(name + " order's end", () -> x.order(length));
     }

@@ -8,6 +8,9 @@ public final class WeekTest {
         waitersAnswer();
         mostAndTries();
         keptOrder();
+        keptWithoutAnother();
+        keptWhenSpent();
+        townTakesTheOrder();
         spent();
         wrongAsked();
         Check.end();
@@ -83,6 +86,66 @@ public final class WeekTest {
         Check.noSuch("the image has no order", () -> x.order(1));
         Check.noSuch("wrong", () -> x.week(3));
         Check.same("which changes nothing", 1, () -> x.order(0));
+    }
+
+    private static void order(HeavyGifts x, String when, int... due) {
+        for (int i = 0; i < due.length; i++) {
+            int at = i;
+            Check.same("order " + i + " " + when, due[i], () -> x.order(at));
+        }
+        Check.noSuch("behind the order " + when, () -> x.order(due.length));
+    }
+
+    /* 1 owes 9, which nobody can make, till 0 gives him 4. */
+    private static void keptWithoutAnother() {
+        HeavyGifts x = Check.town("person plain;person plain;person plain;thing 4 1 0;thing 3 1 2;"
+                + "owes 0 4;owes 1 9;owes 2 3;");
+        Check.same("no order", 0, () -> x.week(0));
+        order(x, "where none was found yet");
+        Check.same("a gift", 0, () -> x.give(0, 1, 0, 1));
+        Check.same("an order", 1, () -> x.week(0));
+        order(x, "as found", 1, 2);
+        Check.same("undo", 0, x::undo);
+        for (int what = 0; what < 3; what++) {
+            int w = what;
+            int[] due = {0, 2, 4};
+            Check.same("none any more, what " + w, due[w], () -> x.week(w));
+            order(x, "behind a week without one", 1, 2);
+        }
+        Check.same("a gift", 0, () -> x.give(2, 2, 0, 0));
+        Check.same("still none", 0, () -> x.week(0));
+        order(x, "behind another one", 1, 2);
+        Check.same("a gift", 0, () -> x.give(0, 2, 0, 2));
+        Check.same("0 owes nothing, 1 owes 9", 0, () -> x.week(0));
+        order(x, "behind all of them", 1, 2);
+    }
+
+    /* 5 owes 900, and all ways are tried, till 0 gives him 2. */
+    private static void keptWhenSpent() {
+        HeavyGifts x = Check.town("person plain;person plain;person plain;person sand 4 plain;person plain;"
+                + "person plain;thing 1 1 2;thing 1 1 2;thing 3 1 0;thing 4 1 1;thing 4 1 2;thing 3 1 0;"
+                + "thing 3 1 1;thing 2 1 0;thing 1 1 5;thing 1 1 1;"
+                + "owes 0 2;owes 1 4;owes 2 2;owes 3 4;owes 4 3;owes 5 900;within 2;");
+        Check.same("a gift", 0, () -> x.give(0, 128, 0, 5));
+        Check.same("an order", 1, () -> x.week(0));
+        order(x, "as found", 1, 2, 3, 4, 5);
+        Check.same("undo", 0, x::undo);
+        for (int what = 0; what < 3; what++) {
+            int w = what;
+            Check.same("spent, what " + w, -2, () -> x.week(w));
+            order(x, "behind a spent week", 1, 2, 3, 4, 5);
+        }
+    }
+
+    private static void townTakesTheOrder() {
+        HeavyGifts x = Check.town("person plain;person plain;thing 4 1 0;owes 0 4;");
+        Check.same("an order", 1, () -> x.week(0));
+        Check.same("a fault", 1, () -> Check.tell(x, "person;"));
+        order(x, "behind a fault", 0);
+        Check.illegal("no such text", () -> x.town(701));
+        order(x, "behind a town() that throws", 0);
+        Check.same("a town", 0, () -> Check.tell(x, "person plain;person plain;thing 4 1 0;owes 0 4;"));
+        order(x, "behind a town");
     }
 
     private static void spent() {
