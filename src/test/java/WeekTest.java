@@ -10,6 +10,7 @@ public final class WeekTest {
         keptOrder();
         keptWithoutAnother();
         keptWhenSpent();
+        undoAndRestoreLeaveTheOrder();
         townTakesTheOrder();
         spent();
         wrongAsked();
@@ -135,6 +136,18 @@ public final class WeekTest {
             Check.same("spent, what " + w, -2, () -> x.week(w));
             order(x, "behind a spent week", 1, 2, 3, 4, 5);
         }
+    }
+
+    private static void undoAndRestoreLeaveTheOrder() {
+        HeavyGifts x = Check.town("person plain;person plain;thing 4 1 0;owes 0 4;");
+        x.image();
+        Check.same("a gift", 0, () -> x.give(0, 1, 0, 1));
+        Check.same("an order", 1, () -> x.week(0));
+        order(x, "as found", 1);
+        Check.same("undo", 0, x::undo);
+        order(x, "behind undo", 1);
+        Check.same("restore", 1, () -> x.restore() ? 1 : 0);
+        order(x, "behind restore", 1);
     }
 
     private static void townTakesTheOrder() {
