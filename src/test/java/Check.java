@@ -12,8 +12,14 @@ final class Check {
     static final int OTHER_THROW = -1003;
 
     private static int wrong = 0;
+    private static String sentence = "";
 
     private Check() {
+    }
+
+    /** The sentence of the document that the checks behind it are for: told with each wrong answer. */
+    static void sentence(String words) {
+        sentence = words;
     }
 
     /** What a call answers, or a number of its own for each exception. */
@@ -35,6 +41,9 @@ final class Check {
         if (got != due) {
             wrong++;
             System.out.println(what + " answered " + got + ", due is " + due);
+            if (!sentence.isEmpty()) {
+                System.out.println("    the document: " + sentence);
+            }
         }
     }
 
