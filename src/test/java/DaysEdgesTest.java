@@ -7,6 +7,7 @@ public final class DaysEdgesTest {
         roundWithoutChoice();
         round20();
         roundsWorth();
+        roundApart();
         roundThrows();
         givenOnThatDay();
         oneDrachmAtLeast();
@@ -74,10 +75,14 @@ public final class DaysEdgesTest {
     }
 
     private static void roundThrows() {
-        Check.sentence("Promise 22: NoSuchElementException: also another what. (A ROUND is apart from the TOWN)");
+        Check.sentence("Promise 22: NoSuchElementException: also another what.");
         for (int w : new int[] {-1, 3, Integer.MIN_VALUE, Integer.MAX_VALUE}) {
             Twins.changesNothing("round's what " + w, Twins::rich, Check.NO_SUCH, x -> x.round(2, w));
         }
+    }
+
+    private static void roundApart() {
+        Check.sentence("or 20 GIFTS are made: apart from the TOWN.");
         for (int what = 0; what < 3; what++) {
             int w = what;
             Twins.changesNothing("round(0, " + w + ")", DaysEdgesTest::toGive, new int[] {2, 0, 0}[w],

@@ -60,7 +60,7 @@ public final class SearchEdgesTest {
     }
 
     private static void nobodyOwes() {
-        Check.sentence("A WEEK: all who OWE now (none)");
+        Check.sentence("A WEEK: all who OWE now");
         week("", 1, 0, 0);
         week("person plain;", 1, 0, 0);
         week(TWO + "thing 1 1 0;", 1, 0, 0);
@@ -71,7 +71,7 @@ public final class SearchEdgesTest {
 
     /* The last row of all: only 5 can begin, and each can answer only when the one behind him has. */
     private static void everybodyOwes() {
-        Check.sentence("A WEEK: all who OWE now (six)");
+        Check.sentence("A WEEK: all who OWE now");
         String six = "person plain;".repeat(6);
         week("person sand 1 plain;".repeat(6) + "owes 0 1;owes 1 1;owes 2 1;owes 3 1;owes 4 1;owes 5 1;", 1, 6, 6,
                 0, 1, 2, 3, 4, 5);
@@ -215,7 +215,7 @@ public final class SearchEdgesTest {
     }
 
     private static void getOnceMore() {
-        Check.sentence("TO GET a THING, asked again and in another TOWN");
+        Check.sentence("TO GET a THING: GIFTS one behind the other");
         String spent = TWO + "thing 1 1 1;" + "thing 1 1 0;".repeat(11) + "owes 0 5;within 1;law anyone;";
         String near = "law anyone;person plain;person plain;person plain;thing 1 1 0;owes 0 1;";
         HeavyGifts x = Check.town(spent);
@@ -233,13 +233,15 @@ public final class SearchEdgesTest {
         Check.same("two gifts", 2, () -> x.get(0, 0));
         Check.same("an old town", 0, () -> Check.tell(x, spent));
         Check.same("spent", -2, () -> x.get(0, 0));
-        Check.same("it can't be", 0, () -> Check.tell(x, TWO + "thing 1 1 1;"));
-        Check.same("none", -1, () -> x.get(0, 0));
+        Check.same("one who owes", 0, () -> Check.tell(x, TWO + "thing 1 1 1;owes 1 1;"));
+        Check.same("one gift", 1, () -> x.get(0, 0));
+        Check.same("nobody owes", 0, () -> Check.tell(x, TWO + "thing 1 1 1;"));
+        Check.same("it can't be any more", -1, () -> x.get(0, 0));
     }
 
     /* 1 never gives, for he waits: the first state, and one for each set that 0 may give him. */
     private static void moreThan1000() {
-        Check.sentence("SPENT: if more than 1000 states .. can be come to at all (.. the first state counted)");
+        Check.sentence("SPENT: if more than 1000 states .. can be come to at all .. the first state counted)");
         String one = "thing 1 1 1;owes 0 ";
         String sets999 = "person sand 18 plain;person wait 9;" + "thing 2 1 0;".repeat(3) + "thing 3 1 0;".repeat(7);
         Check.same("999 sets", 999, () -> Check.town(sets999 + one + "22;").sets(0));
@@ -261,7 +263,7 @@ public final class SearchEdgesTest {
 
     /* When 1 has given him his thing, 0 could answer it by 1254 sets of others and more. */
     private static void noGiftWhereHeHasIt() {
-        Check.sentence("(no GIFT being made where he HAS it already");
+        Check.sentence("no GIFT being made where he HAS it already");
         String text = TWO + "thing 5 1 1;" + "thing 1 1 0;".repeat(11) + "owes 1 5;within 1;";
         get(1, 0, 0, text);
         HeavyGifts x = Check.town(text);
@@ -329,7 +331,7 @@ public final class SearchEdgesTest {
     }
 
     private static void firstCut() {
-        Check.sentence("the first: least THING, least first part; Promise 18: 100 by the THING and its first part; NONE");
+        Check.sentence("the first: least THING, least first part. .. Promise 18: 100 by the THING and its first part; NONE");
         cut(12, 1, TWO + "thing 9 1 0;".repeat(12) + "owes 0 1;");
         cut(1, 1149, TWO + "thing 1 1 1;".repeat(11) + "thing 99 1 0;owes 0 49;");
         cut(2, 103, TWO + "thing 1 1 1;thing 8 1 0;thing 20 1 0;owes 0 5;");

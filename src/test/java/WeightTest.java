@@ -40,8 +40,8 @@ public final class WeightTest {
     }
 
     private static void kept() {
-        HeavyGifts x = new HeavyGifts();
         for (int n = 1; n <= 999; n++) {
+            HeavyGifts x = new HeavyGifts();
             int upTo = n;
             int many = (int) Check.answer(() -> x.keep(upTo, -1));
             long together = 0;
@@ -56,6 +56,7 @@ public final class WeightTest {
             Check.same("not more than twice", 1, () -> upTo - ((1 << many - 1) - 1) <= 1 << many - 1 ? 1 : 0);
             Check.noSuch("no more", () -> x.keep(upTo, many));
         }
+        HeavyGifts x = new HeavyGifts();
         Check.same("keep(999, NONE)", 10, () -> x.keep(999, -1));
         Check.same("keep(2, 1)", 1, () -> x.keep(2, 1));
         Check.noSuch("keep(7, -2)", () -> x.keep(7, -2));
