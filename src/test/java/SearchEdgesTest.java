@@ -33,6 +33,7 @@ public final class SearchEdgesTest {
         fewestGifts();
         getOnceMore();
         moreThan1000();
+        statesAlikeButForOne();
         noGiftWhereHeHasIt();
         getThrows();
         partsOfADrachm();
@@ -259,6 +260,25 @@ public final class SearchEdgesTest {
                 + "thing 1 1 0;thing 1 1 0;owes 0 2;owes 1 1;owes 2 2;");
         get(-2, 0, 3, law + "person sand 4 plain;person sand 3 plain;person least;thing 1 1 0;thing 1 1 0;thing 1 1 0;"
                 + "thing 1 1 2;thing 1 1 0;owes 0 3;owes 1 1;owes 2 1;");
+    }
+
+    /* In each of these towns some states are alike but for what one person has or owes (0, 0, 1 and 3, 2, 4, 5),
+       and lie so that a class which left him out where it compares them would answer otherwise. */
+    private static void statesAlikeButForOne() {
+        Check.sentence("states (who HAS what, how much SAND, who OWES what to whom)");
+        get(5, 1, 4, "law anyone;person fewest;person sand 2 plain;thing 1 2 1;thing 2 1 1;thing 1 2 0;thing 1 2 0;"
+                + "thing 2 0 0;thing 2 0 1;thing 2 0 0;owes 0 2;owes 1 1;within 2;");
+        get(4, 1, 0, "person plain;person plain;person plain;person least;person sand 2 plain;person plain;"
+                + "thing 1 1 5;thing 2 1 2;thing 3 1 0;owes 0 4;owes 1 3;owes 2 7;owes 4 8;owes 5 3;within 3;");
+        get(-2, 0, 0, "law anyone;person sand 7 plain;person sand 2 plain;person plain;person plain;"
+                + "person sand 2 plain;person plain;thing 1 1 2;"
+                + "owes 0 2;owes 1 2;owes 2 1;owes 3 1;owes 4 3;owes 5 2;");
+        get(-2, 0, 1, "law anyone;person sand 2 plain;person plain;person plain;person plain;person sand 1 plain;"
+                + "person plain;thing 1 1 1;thing 1 1 3;thing 1 1 0;owes 1 2;owes 4 1;within 1;");
+        get(-2, 5, 0, "law anyone;person plain;person fewest;person aim 0;person sand 7 plain;person sand 8 plain;"
+                + "person sand 3 plain;thing 2 1 3;owes 1 3;owes 2 5;owes 3 2 to 2;owes 4 7;within 1;");
+        get(-2, 5, 3, "person fewest;person sand 4 aim 2;person plain;person plain;person plain;person sand 6 plain;"
+                + "thing 1 1 4;thing 1 1 0;thing 1 1 3;thing 1 1 4;owes 2 1;owes 3 3 to 5;owes 4 2;owes 5 1;within 3;");
     }
 
     /* When 1 has given him his thing, 0 could answer it by 1254 sets of others and more. */
